@@ -46,7 +46,8 @@ public final class StruckColours {
     private final Sea keptSecond = new Sea();
     private final Search search = new Search();
     private final Notes sights = new Notes();
-    private final Tales tales = new Tales();
+    private final Notes tales = new Notes();
+    private final Laws lawful = new Laws();
     private Rule rule = new Rule();
     private Rule otherRule = new Rule();
     private int taken = 3;
@@ -532,7 +533,7 @@ public final class StruckColours {
         if (v < 0 || v > mostSeen(what)) {
             return NONE;
         }
-        return sights.adds(what, v) ? sights.size : NONE;
+        return sights.adds(what, v, 0) ? sights.size : NONE;
     }
 
     public int forget() {
@@ -573,7 +574,7 @@ public final class StruckColours {
         if (o < 0 || o > FLAG || e < 0 || e > FLAG - o || is < 0 || is > 1) {
             return NONE;
         }
-        return tales.adds(o, e, is == 1) ? tales.size : NONE;
+        return tales.adds(o, e, is) ? tales.size : NONE;
     }
 
     public int deny() {
@@ -581,26 +582,26 @@ public final class StruckColours {
     }
 
     public int laws() {
-        int laws = tales.weighs();
+        int fitting = lawful.weighs(tales);
         numbers.clears();
-        if (laws > 0) {
-            numbers.adds(tales.least / Tales.STEPS);
-            numbers.adds(tales.least % Tales.STEPS);
+        if (fitting > 0) {
+            numbers.adds(lawful.least / Laws.STEPS);
+            numbers.adds(lawful.least % Laws.STEPS);
         }
-        return laws;
+        return fitting;
     }
 
     public int asks() {
-        int laws = tales.weighs();
-        if (laws == 0) {
+        int fitting = lawful.weighs(tales);
+        if (fitting == 0) {
             return FIRST_REASON;
         }
         int best = 0;
-        int least = laws + 1;
+        int least = fitting + 1;
         for (int own = 0; own <= FLAG; own++) {
             for (int other = 0; other <= FLAG - own; other++) {
-                int overs = tales.lawsOver(own, other);
-                int left = Math.max(overs, laws - overs);
+                int overs = lawful.numberOver(own, other);
+                int left = Math.max(overs, fitting - overs);
                 if (left < least) {
                     least = left;
                     best = 13 * own + other;
@@ -968,7 +969,7 @@ public final class StruckColours {
 
     private boolean fitsAll(int ship) {
         for (int i = 0; i < sights.size; i++) {
-            if (!fitsSight(ship, sights.whatAt(i), sights.valueAt(i))) {
+            if (!fitsSight(ship, sights.firstOf(i), sights.secondOf(i))) {
                 return false;
             }
         }
@@ -1374,18 +1375,20 @@ public final class StruckColours {
         }
     }
 
-    /** Things that were seen of a ship: a kind and a number each. */
+    /** What was seen or told, three numbers each. */
     private static final class Notes {
-        private final int[] what = new int[MOST_NOTED];
-        private final int[] value = new int[MOST_NOTED];
+        private final int[] first = new int[MOST_NOTED];
+        private final int[] second = new int[MOST_NOTED];
+        private final int[] third = new int[MOST_NOTED];
         private int size;
 
-        private boolean adds(int kind, int v) {
+        private boolean adds(int a, int b, int c) {
             if (size < 0 || size >= MOST_NOTED) {
                 return false;
             }
-            what[size] = kind;
-            value[size] = v;
+            first[size] = a;
+            second[size] = b;
+            third[size] = c;
             size++;
             return true;
         }
@@ -1396,60 +1399,43 @@ public final class StruckColours {
             return had;
         }
 
-        private int whatAt(int i) {
-            return i >= 0 && i < MOST_NOTED ? what[i] : NONE;
+        private int firstOf(int i) {
+            return i >= 0 && i < MOST_NOTED ? first[i] : NONE;
         }
 
-        private int valueAt(int i) {
-            return i >= 0 && i < MOST_NOTED ? value[i] : NONE;
+        private int secondOf(int i) {
+            return i >= 0 && i < MOST_NOTED ? second[i] : NONE;
+        }
+
+        private int thirdOf(int i) {
+            return i >= 0 && i < MOST_NOTED ? third[i] : NONE;
         }
     }
 
-    /** What was told of ships that went over or not, and the laws that fit it; a law is 13 times t, and d. */
-    private static final class Tales {
+    /** The laws of going over that fit what was told; a law is 13 times t, and d. */
+    private static final class Laws {
         private static final int STEPS = 13;
-        private static final int LAWS = STEPS * STEPS;
+        private static final int ALL = STEPS * STEPS;
 
-        private final int[] own = new int[MOST_NOTED];
-        private final int[] other = new int[MOST_NOTED];
-        private final boolean[] over = new boolean[MOST_NOTED];
-        private final boolean[] fitting = new boolean[LAWS];
-        private int size;
+        private final boolean[] fitting = new boolean[ALL];
         private int least;
 
-        private boolean adds(int o, int e, boolean is) {
-            if (size < 0 || size >= MOST_NOTED) {
-                return false;
-            }
-            own[size] = o;
-            other[size] = e;
-            over[size] = is;
-            size++;
-            return true;
-        }
-
-        private int empties() {
-            int had = size;
-            size = 0;
-            return had;
-        }
-
         /** Finds the laws that fit, and the least of them: how many. */
-        private int weighs() {
-            int laws = 0;
-            for (int law = LAWS - 1; law >= 0; law--) {
-                fitting[law] = fitsTales(law);
-                if (fitting[law]) {
-                    laws++;
-                    least = law;
+        private int weighs(Notes tales) {
+            int number = 0;
+            for (int each = ALL - 1; each >= 0; each--) {
+                fitting[each] = fitsTales(each, tales);
+                if (fitting[each]) {
+                    number++;
+                    least = each;
                 }
             }
-            return laws;
+            return number;
         }
 
-        private boolean fitsTales(int law) {
-            for (int i = 0; i < size && i < MOST_NOTED; i++) {
-                if (isOver(law, own[i], other[i]) != over[i]) {
+        private static boolean fitsTales(int each, Notes tales) {
+            for (int i = 0; i < tales.size; i++) {
+                if (isOver(each, tales.firstOf(i), tales.secondOf(i)) != (tales.thirdOf(i) == 1)) {
                     return false;
                 }
             }
@@ -1457,16 +1443,16 @@ public final class StruckColours {
         }
 
         /** By how many of the laws that fit a ship goes over. */
-        private int lawsOver(int o, int e) {
-            int laws = 0;
-            for (int law = 0; law < LAWS; law++) {
-                laws += fitting[law] && isOver(law, o, e) ? 1 : 0;
+        private int numberOver(int own, int other) {
+            int number = 0;
+            for (int each = 0; each < ALL; each++) {
+                number += fitting[each] && isOver(each, own, other) ? 1 : 0;
             }
-            return laws;
+            return number;
         }
 
-        private static boolean isOver(int law, int o, int e) {
-            return o < law / STEPS || e - o >= law % STEPS;
+        private static boolean isOver(int each, int own, int other) {
+            return own < each / STEPS || other - own >= each % STEPS;
         }
     }
 

@@ -297,7 +297,8 @@ public final class ModelTest {
                 return tells(spoilt(text.length() > 60 ? "" : text)) && like("law()", x.law(), m.law());
             default:
                 int seed = random.nextInt();
-                return like("years(" + seed + ", " + 2 * a + ")", x.years(seed, 2 * a), m.years(seed, 2 * a));
+                int n = between(-1, 61);
+                return like("years(" + seed + ", " + n + ")", x.years(seed, n), m.years(seed, n));
         }
     }
 }

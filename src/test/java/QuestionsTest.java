@@ -454,6 +454,8 @@ public final class QuestionsTest {
         y.sheet(2, 2, 0, 0);
         CHECK.due("47 two days", y.years(0, 2), 0);
         CHECK.dueRow("47 two days", y, 4, 0);
+        CHECK.due("47 one day", y.years(0, 1), 0);
+        CHECK.dueRow("47 one day", y, 2, 0);
         CHECK.due("47 nothing changes", y.count(4) + y.count(2), 0);
     }
 
