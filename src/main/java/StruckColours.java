@@ -1528,9 +1528,15 @@ public final class StruckColours {
             return ship == NONE ? here.size == mostOfOneSide(here) : here.sideOf(ship) == side;
         }
 
-        /** A fight changes no flag but the winner's, so each brings one ship over at most. */
+        /**
+         * A fight changes no flag but the winner's, so it brings one ship over at most; and of her flag it takes some
+         * parts at most, of which each is one less of her side and one more of the other at best.
+         */
         private boolean isTooFar(Sea here, int left) {
-            return ship == NONE && here.size - mostOfOneSide(here) > left;
+            if (ship == NONE) {
+                return here.size - mostOfOneSide(here) > left;
+            }
+            return here.parts(ship, side) + 2 * left * take < here.parts(ship, here.sideOf(ship));
         }
 
         /** By the last fight she goes over, so she is one of the two. */
