@@ -1,13 +1,23 @@
+import java.util.function.IntToLongFunction;
+
 /** What the tests share: answers that are due, and texts told sign by sign. */
 final class Check {
+    private String sentence = "";
+    private int sentences;
     private int asked;
     private int wrong;
+
+    /** The sentence of the document that the answers behind it test, with its promise's number. */
+    void says(String words) {
+        sentence = words + " -- ";
+        sentences++;
+    }
 
     void due(String call, long got, long want) {
         asked++;
         if (got != want) {
             wrong++;
-            System.out.println(call + " answered " + got + ", due is " + want);
+            System.out.println(sentence + call + " answered " + got + ", due is " + want);
         }
     }
 
@@ -32,7 +42,21 @@ final class Check {
             return;
         }
         wrong++;
-        System.out.println(call + " threw no NoSuchElementException");
+        System.out.println(sentence + call + " threw no NoSuchElementException");
+    }
+
+    /** A call takes the numbers low .. high: these two are not refused, those about them and the farthest ones are. */
+    void dueLimits(String call, IntToLongFunction of, int low, int high) {
+        for (int v : new int[] {low, high}) {
+            due(call + " with " + v + " is taken", of.applyAsLong(v) >= 0, true);
+        }
+        dueRefused(call, of, low - 1, high + 1, Integer.MIN_VALUE, Integer.MAX_VALUE);
+    }
+
+    void dueRefused(String call, IntToLongFunction of, int... values) {
+        for (int v : values) {
+            due(call + " with " + v, of.applyAsLong(v), StruckColours.NONE);
+        }
     }
 
     /** Puts a text, whatever was there. */
@@ -53,6 +77,23 @@ final class Check {
         tell(x, ships);
         x.ships();
         return x;
+    }
+
+    /** Ships and the rule s, by which who has more strength wins. */
+    static StruckColours strongSea(String ships, int take) {
+        StruckColours x = sea(ships);
+        rule(x, "s");
+        x.take(take);
+        return x;
+    }
+
+    /** SIDES a .. d of a ship's flag as the digits of a number in the base 100. */
+    static long flag(StruckColours x, int ship) {
+        long flag = 0;
+        for (int what = 3; what <= 6; what++) {
+            flag = 100 * flag + x.ship(ship, what);
+        }
+        return flag;
     }
 
     static int rule(StruckColours x, String text) {
@@ -76,7 +117,7 @@ final class Check {
     }
 
     void ends() {
-        System.out.println(asked + " answers, " + wrong + " not as due");
+        System.out.println((sentences > 0 ? sentences + " sentences, " : "") + asked + " answers, " + wrong + " not as due");
         if (wrong != 0) {
             System.exit(1);
         }
