@@ -203,9 +203,13 @@ public final class StruckColours {
         ahead.becomes(sea);
         int done = 0;
         boolean stopped = false;
-        for (int p = 0; p < length && !stopped; p += lengthOfAct(text.at(p))) {
-            stopped = !acts(p);
-            done += stopped ? 0 : 1;
+        int begin = 0;
+        for (int p = 0; p < length && !stopped; p++) {
+            if (p == begin) {
+                stopped = !acts(p);
+                done += stopped ? 0 : 1;
+                begin += lengthOfAct(text.at(p));
+            }
         }
         if (done > 0) {
             past.adds(ahead);
